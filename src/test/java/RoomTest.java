@@ -1,0 +1,106 @@
+/** The 600 rows, as promises 3, 4, 12, 16, 19 and 20 name them, within 512 calls of an object. */
+public final class RoomTest {
+    private static final Due due = new Due();
+
+    public static void main(String[] args) {
+        lastRowByEnter();
+        lastRowByMark();
+        lastRowByHelp();
+        joinFillsTheRoom();
+        loadFillsTheRoom();
+        fullRoomStillPlays();
+        due.end();
+    }
+
+    /** Persons 0 and 1, then joined ones: 4 times n rows. */
+    private static PlayStates withRows(int n) {
+        PlayStates x = new PlayStates(3);
+        x.person();
+        x.person();
+        Due.enterMany(x, 0, n / 4);
+        for (int i = 0; i < 3; i++) {
+            x.join(0, 1);
+        }
+        return x;
+    }
+
+    private static void lastRowByEnter() {
+        PlayStates x = withRows(596);
+        due.same("rows()", x.rows(), 596);
+        for (int i = 0; i < 4; i++) {
+            due.same("enter(1, 0, v)", x.enter(1, 0, i + 1), 596 + i);
+        }
+        due.same("enter(1, 0, 9), no room", x.enter(1, 0, 9), -1);
+        due.same("at(1, 0)", x.at(1, 0), 4);
+        due.same("enter(1, 0, 0), no room", x.enter(1, 0, 0), -1);
+        due.same("rows()", x.rows(), 600);
+    }
+
+    private static void lastRowByMark() {
+        PlayStates x = withRows(596);
+        for (int i = 0; i < 4; i++) {
+            due.same("mark(1, 0, v, true)", x.mark(1, 0, i + 1, true), 596 + i);
+        }
+        due.same("mark(1, 0, 9, true), no room", x.mark(1, 0, 9, true), -1);
+        due.same("mark(1, 0, 1, false), no room", x.mark(1, 0, 1, false), -1);
+        due.same("marks(1, 0)", x.marks(1, 0), 30);
+        due.same("rows()", x.rows(), 600);
+    }
+
+    private static void lastRowByHelp() {
+        PlayStates x = withRows(596);
+        x.truth(1, 7);
+        x.truth(2, 8);
+        for (int i = 0; i < 3; i++) {
+            x.enter(1, 0, i + 1);
+        }
+        due.same("help(1)", x.help(1), 1);
+        due.same("help(1), no room", x.help(1), -1);
+        due.same("helps(1)", x.helps(1), 1);
+        due.same("at(1, 2)", x.at(1, 2), 0);
+        due.same("rows()", x.rows(), 600);
+    }
+
+    private static void joinFillsTheRoom() {
+        PlayStates x = withRows(480);
+        due.same("join(0, 1), just room", x.join(0, 1), 5);
+        due.same("rows()", x.rows(), 600);
+        due.same("join(0, 1), no room", x.join(0, 1), -1);
+        x.person();
+        due.same("join(1, 6) of two roots in a full room", x.join(1, 6), 7);
+        due.same("rows()", x.rows(), 600);
+
+        x = withRows(480);
+        x.enter(1, 1, 9);
+        due.same("join(0, 1), 121 rows", x.join(0, 1), -1);
+        due.same("rows()", x.rows(), 481);
+        due.same("join(0, 2), 120 rows and one too few of room", x.join(0, 2), -1);
+        x.undo(0);
+        due.same("person()", x.person(), 5);
+        due.same("join(0, 5), 119 rows", x.join(0, 5), 6);
+        due.same("rows()", x.rows(), 600);
+    }
+
+    private static void loadFillsTheRoom() {
+        PlayStates x = withRows(580);
+        due.same("load() of 21 rows", Due.load(x, "7(123456789)7(123456789)7"), -1001);
+        due.same("rows()", x.rows(), 580);
+        due.same("load() of 20 rows", Due.load(x, "7(123456789).7(123456789)"), 5);
+        due.same("rows()", x.rows(), 600);
+        due.same("load() of 1 row in a full room", Due.load(x, "..1"), -1001);
+        due.same("load() of no row in a full room", Due.load(x, "..."), 6);
+        due.same("load() of a wrong text in a full room", Due.load(x, ".1"), -3);
+    }
+
+    private static void fullRoomStillPlays() {
+        PlayStates x = withRows(600);
+        due.same("rows()", x.rows(), 600);
+        due.same("undo(4)", x.undo(4), 599);
+        due.same("undo(4)", x.undo(4), 598);
+        due.same("branches(4)", x.branches(4), 1);
+        due.same("redo(4, 0)", x.redo(4, 0), 598);
+        due.same("redo(4, 0)", x.redo(4, 0), 599);
+        due.same("undo(0)", x.undo(0), 149);
+        due.same("enter(0, 1, 1), undo makes no room", x.enter(0, 1, 1), -1);
+    }
+}
