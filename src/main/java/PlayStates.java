@@ -37,11 +37,9 @@ public final class PlayStates {
         placeCount = Math.max(1, Math.min(places, MOST_PLACES));
         right = new int[placeCount];
         persons = new Person[MOST_PERSONS];
-        personCount = 0;
         table = new RowTable();
         joining = new boolean[MOST_ROWS];
         units = new int[MOST_UNITS];
-        unitCount = 0;
         draft = new Board(placeCount);
         reader = new StateReader(draft, placeCount);
     }
@@ -360,7 +358,6 @@ public final class PlayStates {
             clock = new Clock();
             // Below 0 and of this person alone: the table knows the branches of this root by it.
             present = -1 - number;
-            helpCount = 0;
         }
     }
 
@@ -452,7 +449,6 @@ public final class PlayStates {
             told = new int[MOST_ROWS];
             before = new int[MOST_ROWS];
             behind = new int[MOST_ROWS];
-            count = 0;
         }
 
         boolean holds(int row) {
@@ -504,12 +500,6 @@ public final class PlayStates {
         private long lastTold;
         private long counted;
 
-        Clock() {
-            running = false;
-            lastTold = 0;
-            counted = 0;
-        }
-
         boolean mayBeTold(long ms) {
             return ms >= lastTold;
         }
@@ -537,10 +527,6 @@ public final class PlayStates {
         StateReader(Board board, int placeCount) {
             this.board = board;
             this.placeCount = placeCount;
-            placesRead = 0;
-            mayOpen = false;
-            open = false;
-            lastMark = 0;
         }
 
         void begin() {
@@ -548,7 +534,6 @@ public final class PlayStates {
             placesRead = 0;
             mayOpen = false;
             open = false;
-            lastMark = 0;
         }
 
         boolean accepts(int unit) {

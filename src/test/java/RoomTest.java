@@ -7,6 +7,7 @@ public final class RoomTest {
         lastRowByMark();
         lastRowByHelp();
         joinFillsTheRoom();
+        joinNeedsRoomForWhatChanges();
         loadFillsTheRoom();
         fullRoomStillPlays();
         due.end();
@@ -74,11 +75,40 @@ public final class RoomTest {
         x.enter(1, 1, 9);
         due.same("join(0, 1), 121 rows", x.join(0, 1), -1);
         due.same("rows()", x.rows(), 481);
-        due.same("join(0, 2), 120 rows and one too few of room", x.join(0, 2), -1);
-        x.undo(0);
         due.same("person()", x.person(), 5);
+        due.same("join(0, 5), 120 rows, room for 119", x.join(0, 5), -1);
+        x.undo(0);
         due.same("join(0, 5), 119 rows", x.join(0, 5), 6);
         due.same("rows()", x.rows(), 600);
+    }
+
+    /** Persons 5 and 6 with ten rows each at place 1, of which 6's change nothing: 580 rows, then more to n. */
+    private static PlayStates withTwins(int n) {
+        PlayStates x = withRows(560);
+        x.person();
+        x.person();
+        for (int i = 0; i < 10; i++) {
+            x.enter(5, 1, 1 + i % 2);
+            x.enter(6, 1, 1 + i % 2);
+        }
+        for (int i = 580; i < n; i++) {
+            x.enter(1, 0, 1 + i % 2);
+        }
+        due.same("rows()", x.rows(), n);
+        return x;
+    }
+
+    private static void joinNeedsRoomForWhatChanges() {
+        PlayStates x = withTwins(590);
+        due.same("join(5, 6), room for ten", x.join(5, 6), 7);
+        due.same("rows()", x.rows(), 600);
+        due.same("state", Due.saved(x, 7), ".2.");
+
+        x = withTwins(591);
+        due.same("join(5, 6), room for nine", x.join(5, 6), -1);
+        Due.load(x, ".1x");
+        due.same("join(5, 6), it begins with nothing entered", x.join(5, 6), -1);
+        due.same("rows()", x.rows(), 591);
     }
 
     private static void loadFillsTheRoom() {
@@ -100,6 +130,8 @@ public final class RoomTest {
         due.same("branches(4)", x.branches(4), 1);
         due.same("redo(4, 0)", x.redo(4, 0), 598);
         due.same("redo(4, 0)", x.redo(4, 0), 599);
+        due.same("redo(4, 0) behind the last row", x.redo(4, 0), -1);
+        due.same("branches(4) behind the last row", x.branches(4), 0);
         due.same("undo(0)", x.undo(0), 149);
         due.same("enter(0, 1, 1), undo makes no room", x.enter(0, 1, 1), -1);
     }

@@ -86,6 +86,10 @@ public final class TextTest {
         for (int i = 0; i < texts.length; i++) {
             due.same("load() of '" + texts[i] + "'", Due.load(x, texts[i]), -1 - bad[i]);
         }
+        for (String text : texts) {
+            Due.load(x, text);
+            due.same("load() of '(1).' behind '" + text + "'", Due.load(x, "(1)."), -1);
+        }
         due.same("rows() after wrong texts", x.rows(), 0);
         due.same("person() after wrong texts", x.person(), 0);
     }
