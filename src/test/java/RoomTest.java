@@ -13,7 +13,7 @@ public final class RoomTest {
         due.end();
     }
 
-    /** Persons 0 and 1, then joined ones: 4 times n rows. */
+    /** Persons 0 to 4 and n rows, a quarter of them each of person 0 and of three that were joined from it. */
     private static PlayStates withRows(int n) {
         PlayStates x = new PlayStates(3);
         x.person();
