@@ -1,3 +1,6 @@
+import java.util.function.Supplier;
+import java.util.function.ToLongFunction;
+
 /** Compares answers with those that are due, and ends a test with exit code 1 if one was not. */
 final class Due {
     private int seen = 0;
@@ -21,6 +24,18 @@ final class Due {
             wrong++;
             System.out.println(call + " answered '" + got + "', due is '" + want + "'");
         }
+    }
+
+    /**
+     * A call that is refused: its answer, and that it does nothing. All that is seen is afterwards what it was before,
+     * and further play answers as that of a twin without the call.
+     */
+    void doesNothing(Supplier<Play> start, String call, ToLongFunction<Play> refused, long want) {
+        Play x = start.get();
+        String before = x.seen();
+        same(call, refused.applyAsLong(x), want);
+        same("what is seen after " + call, x.seen(), before);
+        same("play after " + call, x.goOn(), start.get().goOn());
     }
 
     void end() {
