@@ -5,6 +5,7 @@ public final class Promise01NothingTest {
     public static void main(String[] args) {
         noPersons();
         nothingOfTheTruth();
+        nothingOfAnotherObject();
         due.end();
     }
 
@@ -40,5 +41,29 @@ public final class Promise01NothingTest {
         due.same("wrong(0) with every place entered", x.wrong(0), 0);
         due.same("truth(80, 1)", x.truth(80, 1), true);
         due.same("wrong(0) with one place told", x.wrong(0), 1);
+    }
+
+    /** What another object was told, and the bytes that came to it, are its own. */
+    private static void nothingOfAnotherObject() {
+        Play other = Play.start();
+        other.units("1.2");
+        String before = other.seen();
+        Play x = new Play(3);
+        due.same("rows()", x.rows(), 0);
+        due.same("helps(0)", x.helps(0), -1);
+        due.same("load(), nothing came", x.load(), -1);
+        due.same("person()", x.person(), 0);
+        due.same("help(0), nothing is told", x.help(0), -1);
+        due.same("undo(0)", x.undo(0), -1);
+        due.same("redo(0, 0)", x.redo(0, 0), -1);
+        due.same("time(0, 0)", x.time(0, 0), 0);
+        due.same("saved(0)", x.saved(0), "...");
+        due.same("enter(0, 1, 8)", x.enter(0, 1, 8), 0);
+        due.same("truth(1, 9)", x.truth(1, 9), true);
+        due.same("timer(0, 70, true)", x.timer(0, 70, true), true);
+        x.units("987");
+        due.same("what is seen of the other", other.seen(), before);
+        due.same("load() of the other", other.load(), 2);
+        due.same("saved(2) of the other", other.saved(2), "1.2");
     }
 }

@@ -6,6 +6,7 @@ public final class Promise18UnitTest {
         zeroToTwoHundredFiftyFive();
         notZeroToTwoHundredFiftyFive();
         behindWhatIsToBeRead();
+        waitsForLoadAlone();
         oneThousand();
         oneThousandAgain();
         due.end();
@@ -48,7 +49,35 @@ public final class Promise18UnitTest {
         due.same("saved(2)", x.saved(2), "1.2(9)");
     }
 
-    /** Promise 18: "or there are 1,000". No object has as many within 512 calls; it holds behind them, too. */
+    /** Promise 18: "what is to be read": no call but load takes it away or changes it, whatever comes between the bytes. */
+    private static void waitsForLoadAlone() {
+        Play x = Play.start();
+        String text = "1(28).(9)3";
+        for (int i = 0; i < text.length(); i++) {
+            due.same("unit(" + (int) text.charAt(i) + ")", x.unit(text.charAt(i)), true);
+            due.same("unit(256)", x.unit(256), false);
+            x.enter(0, 1, 1 + i % 9);
+            x.mark(1, 1, 7, i % 2 == 0);
+            x.undo(1);
+            x.redo(1, 0);
+            x.truth(1, i % 10);
+            x.help(1);
+            x.timer(0, 200 + i, true);
+            if (i == 3) {
+                due.same("join(0, 1)", x.join(0, 1), 2);
+            }
+            if (i == 6) {
+                due.same("person()", x.person(), 3);
+            }
+            due.same("join(0, 0)", x.join(0, 0), -1);
+            x.saved(1);
+        }
+        x.seen();
+        due.same("load()", x.load(), 4);
+        due.same("saved(4)", x.saved(4), text);
+    }
+
+    /** Promise 18: "or there are 1,000". No object has as many within 512 calls: see Play.goBeyond. */
     private static void oneThousand() {
         Play x = Play.withPersons(81, 1).goBeyond();
         for (int n = 1; n <= 1000; n++) {

@@ -90,7 +90,7 @@ public final class Promise19LoadTest {
         }
     }
 
-    /** The longest texts that 512 calls can give, and the longest of all, which needs more. */
+    /** The longest texts that 512 calls can give, and the longest of all, which needs more: see Play.goBeyond. */
     private static void longTexts() {
         Play x = new Play(81);
         String text = "1(123456789)".repeat(35) + ".".repeat(46);

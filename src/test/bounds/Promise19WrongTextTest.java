@@ -155,6 +155,7 @@ public final class Promise19WrongTextTest {
         String sixHundred = "1(123456789)".repeat(60);
         due.same("load() of 601 rows", z.load(sixHundred + "1" + ".".repeat(20)), -1001);
         due.same("load() of 810 rows", z.load("1(123456789)".repeat(81)), -1001);
+        due.same("load() of 810 rows and a byte too many", z.load("1(123456789)".repeat(81) + "."), -973);
         due.same("rows()", z.rows(), 0);
         due.same("load() of 600 rows", z.load(sixHundred + ".".repeat(21)), 0);
         due.same("rows()", z.rows(), 600);

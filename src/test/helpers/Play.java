@@ -73,7 +73,10 @@ final class Play {
         return made;
     }
 
-    /** For the few boundaries that lie behind the 512th call. */
+    /**
+     * For the few limits that the document names but that no 512 calls can reach. "What later calls answer is free", so
+     * these hold the class to its own way there (to the same limits), not to a promise.
+     */
     Play goBeyond() {
         countsCalls = false;
         return this;

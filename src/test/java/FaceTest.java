@@ -1,23 +1,47 @@
 import java.lang.reflect.Constructor;
+import java.lang.reflect.Executable;
 import java.lang.reflect.Field;
 import java.lang.reflect.Method;
 import java.lang.reflect.Modifier;
 import java.util.Set;
 import java.util.TreeSet;
 
-/** The class has the document's face, and nothing else can be seen of it. */
+/**
+ * The public face: "public final class PlayStates" with the constructor and the methods that stand there, and nothing
+ * else that can be seen (LANGUAGE.md, rule 1).
+ */
 public final class FaceTest {
     private static final Due due = new Due();
 
-    private static final String[] FACE = {"int person()", "int enter(int,int,int)", "int mark(int,int,int,boolean)",
-        "int undo(int)", "int redo(int,int)", "int branches(int)", "int at(int,int)", "int marks(int,int)",
-        "boolean truth(int,int)", "int wrong(int)", "int help(int)", "int helps(int)",
-        "boolean timer(int,long,boolean)", "long time(int,long)", "int join(int,int)", "int save(int,int)",
-        "boolean unit(int)", "int load()", "int rows()"};
+    private static final String CONSTRUCTOR = "public PlayStates(int places);";
+
+    /** As the document writes them, in its order. */
+    private static final String[] FACE = {
+        "public int person();",
+        "public int enter(int person, int place, int v);",
+        "public int mark(int person, int place, int v, boolean on);",
+        "public int undo(int person);",
+        "public int redo(int person, int k);",
+        "public int branches(int person);",
+        "public int at(int person, int place);",
+        "public int marks(int person, int place);",
+        "public boolean truth(int place, int v);",
+        "public int wrong(int person);",
+        "public int help(int person);",
+        "public int helps(int person);",
+        "public boolean timer(int person, long ms, boolean run);",
+        "public long time(int person, long ms);",
+        "public int join(int person, int other);",
+        "public int save(int person, int i);",
+        "public boolean unit(int u);",
+        "public int load();",
+        "public int rows();",
+    };
 
     public static void main(String[] args) {
         Class<?> face = PlayStates.class;
         due.same("public and final", face.getModifiers(), Modifier.PUBLIC | Modifier.FINAL);
+        due.same("its name, without a package", face.getName(), "PlayStates");
         methods(face);
         constructors(face);
         fields(face);
@@ -26,7 +50,10 @@ public final class FaceTest {
     }
 
     private static void methods(Class<?> face) {
-        Set<String> want = new TreeSet<>(Set.of(FACE));
+        Set<String> want = new TreeSet<>();
+        for (String written : FACE) {
+            want.add(withoutNames(written));
+        }
         Set<String> got = new TreeSet<>();
         Set<String> publicNames = new TreeSet<>();
         for (Method m : face.getDeclaredMethods()) {
@@ -44,12 +71,21 @@ public final class FaceTest {
         }
     }
 
+    /** The names of parameters are not in the compiled class. */
+    private static String withoutNames(String written) {
+        return written.replaceAll("(int|long|boolean) \\w+(?=[,)])", "$1");
+    }
+
     private static String asWritten(Method m) {
-        StringBuilder text = new StringBuilder(m.getReturnType().getName()).append(' ').append(m.getName()).append('(');
+        return "public " + m.getReturnType().getName() + " " + m.getName() + parameters(m) + ";";
+    }
+
+    private static String parameters(Executable e) {
+        StringBuilder text = new StringBuilder("(");
         String comma = "";
-        for (Class<?> parameter : m.getParameterTypes()) {
+        for (Class<?> parameter : e.getParameterTypes()) {
             text.append(comma).append(parameter.getName());
-            comma = ",";
+            comma = ", ";
         }
         return text.append(')').toString();
     }
@@ -58,8 +94,7 @@ public final class FaceTest {
         Constructor<?>[] all = face.getDeclaredConstructors();
         due.same("constructors", all.length, 1);
         due.same("the constructor is public", all[0].getModifiers(), Modifier.PUBLIC);
-        due.same("its parameters", all[0].getParameterCount(), 1);
-        due.same("its parameter", all[0].getParameterTypes()[0].getName(), "int");
+        due.same("the constructor", "public " + face.getName() + parameters(all[0]) + ";", withoutNames(CONSTRUCTOR));
     }
 
     private static void fields(Class<?> face) {

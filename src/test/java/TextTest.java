@@ -11,8 +11,6 @@ public final class TextTest {
         whatCameIsGone();
         loadMakesRows();
         loadedPersonBeginsAnew();
-        fullTexts();
-        thousandUnits();
         eightPersons();
         due.end();
     }
@@ -71,7 +69,6 @@ public final class TextTest {
     }
 
     private static void wrongTexts() {
-        PlayStates x = new PlayStates(2);
         String[] texts = {"", "0.", ".0", ".", "1", "...", "..1", "..(", "..(1", "..(1)(", "..(1).", "..(1)(2)",
             "(", "(1)..", ".(", ".(.", ".()", ".(0", ".(01)", ".(1", ".(11)", ".(21).", ".(123", ".(123).(1",
             ".(1)(2).", ".(1)", ".(1))", ")", ".)", "..)", ".(1(", ".(1 ).", " ..", ". .", "..\n", "a.", "./",
@@ -84,14 +81,12 @@ public final class TextTest {
             1, 2, 1};
         due.same("a place for each text", texts.length, bad.length);
         for (int i = 0; i < texts.length; i++) {
+            PlayStates x = new PlayStates(2);
             due.same("load() of '" + texts[i] + "'", Due.load(x, texts[i]), -1 - bad[i]);
+            due.same("load() of '(1).' behind '" + texts[i] + "'", Due.load(x, "(1)."), -1);
+            due.same("rows() after '" + texts[i] + "'", x.rows(), 0);
+            due.same("person() after '" + texts[i] + "'", x.person(), 0);
         }
-        for (String text : texts) {
-            Due.load(x, text);
-            due.same("load() of '(1).' behind '" + text + "'", Due.load(x, "(1)."), -1);
-        }
-        due.same("rows() after wrong texts", x.rows(), 0);
-        due.same("person() after wrong texts", x.person(), 0);
     }
 
     private static void rightTexts() {
@@ -147,42 +142,6 @@ public final class TextTest {
         due.same("helps(1)", x.helps(1), 0);
         due.same("time(1, 2)", x.time(1, 2), 0);
         due.same("enter(1, 0, 1) is there already", x.enter(1, 0, 1), -1);
-    }
-
-    private static String repeated(String part, int n) {
-        StringBuilder text = new StringBuilder();
-        for (int i = 0; i < n; i++) {
-            text.append(part);
-        }
-        return text.toString();
-    }
-
-    private static void fullTexts() {
-        PlayStates x = new PlayStates(81);
-        String sixty = repeated("7(123456789)", 60);
-        due.same("load() of 600 rows and a text of 741 bytes", Due.load(x, sixty + repeated(".", 21)), 0);
-        due.same("rows()", x.rows(), 600);
-        due.same("save(0, 740)", x.save(0, 740), 46);
-        due.same("save(0, 719)", x.save(0, 719), 41);
-        due.same("save(0, 741)", x.save(0, 741), -1);
-        x = new PlayStates(81);
-        due.same("load() of 601 rows", Due.load(x, sixty + repeated(".", 20) + "1"), -1001);
-        due.same("rows()", x.rows(), 0);
-        due.same("person()", x.person(), 0);
-        due.same("load() of 810 rows", Due.load(x, repeated("7(123456789)", 81)), -1001);
-        due.same("load() of 810 rows and a byte too many", Due.load(x, repeated("7(123456789)", 81) + "."), -973);
-    }
-
-    private static void thousandUnits() {
-        PlayStates x = new PlayStates(81);
-        for (int i = 0; i < 999; i++) {
-            x.unit(46);
-        }
-        due.same("unit(46), the thousandth", x.unit(46), true);
-        due.same("unit(46), one more", x.unit(46), false);
-        due.same("load()", x.load(), -82);
-        due.same("unit(46), after load", x.unit(46), true);
-        due.same("load(), the refused one is not there", x.load(), -2);
     }
 
     private static void eightPersons() {
